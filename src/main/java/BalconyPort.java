@@ -476,7 +476,7 @@ public final class BalconyPort {
             System.arraycopy(other.rent, 0, rent, 0, MOST);
             System.arraycopy(other.ship, 0, ship, 0, 3);
             System.arraycopy(other.times, 0, times, 0, MOST);
-            System.arraycopy(other.rule, 0, rule, 0, LONGEST_RULE);
+            System.arraycopy(other.rule, 0, rule, 0, ruleLength);
             findNeighbours();
         }
 

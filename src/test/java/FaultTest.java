@@ -39,6 +39,10 @@ public final class FaultTest {
         fine("balcony1 1 0 0;wall1 0;ship 1 1 1;times0;goes 1;");
         fine("goes\n1\n;\nship 99 9 9 ; times 9 9 9 9 9 9 9 9 9 9;");
         fault(1, 0, ";");
+        fault(1, 0, "`;");
+        fault(1, 0, "{;");
+        fault(1, 0, "/;");
+        fault(1, 0, ":;");
         fault(1, 0, "x");
         fault(1, 0, "balconyx 1 1 1 1;");
         fault(1, 0, "Balcony 1 1 1 1;");
@@ -131,6 +135,10 @@ public final class FaultTest {
         fault(2, 7, "goes 1+12345;");
         fault(1, 6, "goes 1,2;");
         fault(3, 5, "goes x;");
+        fault(3, 5, "goes zz;");
+        fault(3, 5, "goes az;");
+        fault(3, 5, "goes potsa;");
+        fault(3, 5, "goes pot;");
         fault(3, 5, "goes or 1;");
         fault(3, 5, "goes and;");
         fault(3, 5, "goes balcony;");
