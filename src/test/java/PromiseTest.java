@@ -764,6 +764,10 @@ public final class PromiseTest {
         due("35 how many", 9, () -> many.look(1));
         many.see(1, 65);
         due("34 each with one more", 8, () -> many.wrong(0));
+        // the one with one pot goes, and all behind it: 65, 57, 49 .. 1 pots at sea, or none
+        BalconyPort behind = Check.of("balcony 1 1 0 0;" + "balcony 1 1 8 0;".repeat(8) + "ship 99 1 3; goes pots = 1 or gone;");
+        due("35 the day", 1, () -> behind.look(0));
+        due("35 how many", 10, () -> behind.look(1));
     }
 
     /** Promise 37. */
