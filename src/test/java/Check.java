@@ -8,6 +8,7 @@ final class Check {
 
     private int wrong = 0;
     private int asked = 0;
+    private String sentence = "";
 
     /** An answer as the tests write it: a number, true or false, or the name of what was thrown. */
     static String answer(Call call) {
@@ -18,15 +19,24 @@ final class Check {
         }
     }
 
+    /** The document's sentence that all answers from here on hold the class against, so that a failure names it. */
+    void sentence(String told) {
+        sentence = "[" + told + "] ";
+    }
+
     void due(String what, Object want, Call call) {
         String got = answer(call);
         asked++;
         if (!got.equals(String.valueOf(want))) {
             wrong++;
             if (wrong <= 40) {
-                System.out.println(what + " answered " + got + ", due is " + want);
+                System.out.println(sentence + brief(what) + " answered " + brief(got) + ", due is " + brief(String.valueOf(want)));
             }
         }
+    }
+
+    private static String brief(String told) {
+        return told.length() <= 400 ? told : told.substring(0, 400) + " .. (" + told.length() + ")";
     }
 
     /** Ends the test: with exit code 1, if an answer was not due. */
