@@ -189,6 +189,10 @@ public final class AheadLimitsTest {
             due("on the last day", 1, () -> last.follows(1));
             due("a day too late", 0, () -> late.follows(0));
         }
+        // beside a lost one the second goes at once, else on a day of its own: it must be at home in 20 days without
+        String own = "balcony 1 1 0 0; balcony 2 1 0 0; ship 9 1 1; goes iron = 2 and (beside or day = ";
+        due("it goes on the last day in any case", 0, () -> Check.of(own + "19);").follows(0));
+        due("it would go a day too late", 2, () -> Check.of(own + "20);").follows(0));
         BalconyPort ten = Check.of("balcony 1 1 0 0;".repeat(10) + "ship 99 1 1; goes gone;");
         due("nine", 1022, () -> ten.follows(0));
         due("nine", 511, () -> ten.follows(9));
@@ -230,6 +234,12 @@ public final class AheadLimitsTest {
 
     private static void richestDays() {
         CHECK.sentence("24: The STREET with most MONEY in so many DAYS (0 to 60); NONE: none has any");
+        due("1 is some", 2, () -> over("balcony 1 1 1 2; wall 1 0;").richest(0));
+        due("nothing is none", -1, () -> over("balcony 1 1 0 2; wall 1 0;").richest(60));
+        for (int street = 0; street < 4; street++) {
+            int richest = street;
+            due("street " + street, richest, () -> over("balcony 1 1 0 " + richest + "; wall 1 1;").richest(0));
+        }
         due("now", -1, () -> going(0, 1).richest(0));
         due("in a day", 1, () -> going(0, 1).richest(1));
         due("in 59", -1, () -> going(59, 1).richest(59));
@@ -421,6 +431,10 @@ public final class AheadLimitsTest {
         due("none at home", 0, () -> x.cargo(1));
         due("too heavy", 0, () -> Check.of("balcony 20 1 9 0; ship 28 1 1;").cargo(0));
         due("as heavy", 9, () -> Check.of("balcony 20 1 9 0; ship 29 1 1;").cargo(0));
+        BalconyPort both = Check.of("balcony 1 1 4 0; balcony 1 1 4 0; ship 10 1 1;");
+        due("ships", 1, both::ships);
+        due("behind ships", 8, () -> both.cargo(0));
+        due("ships behind a cargo", 1, both::ships);
         // two small ones rather than the one with most
         due("all together", 6, () -> Check.of("balcony 4 1 5 0; balcony 1 1 3 0; balcony 1 1 3 0; ship 9 1 1;").cargo(1));
     }
@@ -500,6 +514,19 @@ public final class AheadLimitsTest {
         due("more rent", 1, () -> dear.best(0));
         due("more rent", 0, () -> dear.best(1));
         due("more rent", 6, () -> dear.best(-1));
+        // widths that neither grow nor fall along the numbers: each has the dearest wall that the wider ones leave
+        BalconyPort mixed = over("balcony 1 2 0 0; balcony 1 9 0 0; balcony 1 1 0 0; balcony 1 5 0 0; balcony 1 7 0 0;"
+            + "wall 1 9; wall 9 1; wall 5 7; wall 2 8; wall 7 3;");
+        due("all", 28, () -> mixed.best(-1));
+        int[] row = {3, 1, 0, 2, 4};
+        for (int b = 0; b < 5; b++) {
+            int balcony = b;
+            due("wall of " + b, row[b], () -> mixed.best(balcony));
+        }
+        BalconyPort falling = over("balcony 1 5 0 0; balcony 1 3 0 0; balcony 1 4 0 0; wall 5 1; wall 4 9; wall 3 5;");
+        due("all", 15, () -> falling.best(-1));
+        due("the middle one", 2, () -> falling.best(1));
+        due("the last one", 1, () -> falling.best(2));
         // three for two walls: the wide one gets none, as the first row does
         BalconyPort three = over("balcony 1 1 0 0; balcony 1 1 0 0; balcony 1 9 0 0; wall 9 5; wall 9 5;");
         due("first", 0, () -> three.best(0));
@@ -547,6 +574,8 @@ public final class AheadLimitsTest {
         due("both are on the quay", 0, () -> over("balcony 1 2 0 0; balcony 1 2 0 0; wall 1 0;").count(12));
         due("the first wall and none", 0, () -> over("balcony 1 9 0 0; balcony 1 1 0 0; wall 1 0;").count(12));
         due("ten", 9, () -> over("balcony 1 1 0 0;".repeat(10) + "wall 1 0;".repeat(10)).count(12));
+        due("the first wall and none, of another street", 0, () -> over("balcony 1 9 0 1; balcony 1 9 0 0; balcony 1 1 0 0; wall 1 0;").count(12));
+        due("the last two of four", 1, () -> over("balcony 1 9 0 0; balcony 1 1 0 1; balcony 1 5 0 2; balcony 1 6 0 2; wall 9 0; wall 1 0; wall 7 0; wall 5 0; wall 6 0;").count(12));
         // the first and the last of three are not beside each other
         due("not beside", 0, () -> over("balcony 1 1 0 0; balcony 1 9 0 0; balcony 1 2 0 0; wall 2 0; wall 1 0; wall 8 0; wall 9 0;").count(12));
     }

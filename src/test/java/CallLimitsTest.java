@@ -19,6 +19,7 @@ public final class CallLimitsTest {
         countBits();
         balconyWhat();
         balconyDaysToGo();
+        balconyWereItAtHome();
         wallWhat();
         streetWhat();
         noSuchBalcony();
@@ -306,6 +307,27 @@ public final class CallLimitsTest {
         due("back", 9, () -> x.balcony(0, 6));
         x.sweep(0);
         due("lost", 0, () -> x.balcony(0, 6));
+    }
+
+    private static void balconyWereItAtHome() {
+        CHECK.sentence("6: 7 whether GOES gives more than 0 for it now, were it AT HOME (1)");
+        // read as: at home it would leave its WALL free
+        for (int free = 0; free <= 3; free++) {
+            BalconyPort x = Check.of("balcony 1 1 0 0; balcony 1 1 0 1; balcony 1 9 0 2; wall 1 0; wall 1 0; ship 99 1 1; goes day = 0 or free = " + free + ";");
+            x.days(1);
+            due("on a wall, " + free + " free", free == 1 ? 1 : 0, () -> x.balcony(0, 7));
+            due("on a wall, " + free + " free", free == 1 ? 1 : 0, () -> x.balcony(1, 7));
+            due("on the quay, " + free + " free", free == 0 ? 1 : 0, () -> x.balcony(2, 7));
+        }
+        // more than 0, neither 0 nor less
+        String[] rules = {"0-2147*1000*1000", "0-1", "0", "1", "2", "2147*1000*1000"};
+        for (int i = 0; i < rules.length; i++) {
+            int want = i < 3 ? 0 : 1;
+            BalconyPort x = Check.of("balcony 1 1 0 0; goes " + rules[i] + ";");
+            due("goes " + rules[i], want, () -> x.balcony(0, 7));
+            x.sweep(0);
+            due("lost, goes " + rules[i], want, () -> x.balcony(0, 7));
+        }
     }
 
     private static void wallWhat() {

@@ -197,6 +197,13 @@ public final class CustomsLimitsTest {
         due("there", 1, () -> soon.wrong(0));
         soon.see(2, 1);
         due("there with none at sea", 0, () -> soon.wrong(0));
+        // ten that all hang, the first of them on the second wall: none is at sea
+        BalconyPort full = Check.of("balcony 1 2 0 0;" + "balcony 1 3 4 0;".repeat(9) + "wall 3 0; wall 2 0;" + "wall 3 0;".repeat(8) + "ship 99 1 1; goes 1;");
+        full.days(1);
+        due("all hang", 1023, () -> full.count(10));
+        full.see(1, 0);
+        due("none at sea", 1, () -> full.wrong(2));
+        due("no weight at sea", -1, () -> full.fullest(0));
         // one that goes back is at sea, too
         BalconyPort back = going(1, 0);
         back.days(2);
@@ -262,6 +269,14 @@ public final class CustomsLimitsTest {
         x.days(1);
         due("30 from now", 30, () -> x.look(0));
         due("ten: fewer by up to 3, more by up to 6", 9, () -> going(10, 0).look(1));
+        // the one with one pot goes, and all behind it: 65, 57, 49 .. 1 at sea, or none at all
+        BalconyPort apart = Check.of("balcony 1 1 0 0;" + "balcony 1 1 8 0;".repeat(8) + "ship 99 1 2; goes pots = 1 or gone;");
+        due("far apart", 10, () -> apart.look(1));
+        due("the first day", 1, () -> apart.look(0));
+        BalconyPort most = Check.of("balcony 1 1 9 0;".repeat(9) + "balcony 1 1 8 0; ship 99 1 2; goes 1;");
+        due("89 at sea, or fewer by up to 9", 9, () -> most.look(1));
+        most.see(1, 80);
+        due("each of nine without any", 9, () -> most.wrong(0));
     }
 
     private static void lookOfLikeOnes() {
@@ -269,6 +284,7 @@ public final class CustomsLimitsTest {
         BalconyPort long9 = Check.of("balcony 1 1 3 0; ship 99 1 9; goes day = 4;");
         due("the first of eight days", 5, () -> long9.look(0));
         BalconyPort x = going(1, 3);
+        due("before anything is seen", 4, () -> x.look(0));
         x.see(4, 7);
         due("one number on each day", 1, () -> x.look(0));
         due("one", 1, () -> x.look(1));
@@ -379,6 +395,27 @@ public final class CustomsLimitsTest {
             due("rent " + rent, many[rent], () -> x.game(0, 1, 2, 0));
             due("rent " + rent, first[told], () -> x.game(0, 1, 2, 1));
         }
+        // the last of ten on walls of their own, over the last wall of all
+        BalconyPort ten = Check.of("balcony 1 1 0 0;".repeat(8) + "balcony 1 1 1 0; balcony 1 2 0 0;" + "wall 1 0;".repeat(7) + "wall 1 9; wall 1 3; wall 2 2; ship 99 1 1; goes 1;");
+        ten.days(1);
+        due("on wall 8", 8, () -> ten.balcony(8, 5));
+        due("on wall 9", 9, () -> ten.balcony(9, 5));
+        // 9 for one that goes alone, 4 for the first one if both go; they stay for 3 and 2: the first goes in any case
+        ten.widen(7, 2);
+        due("how many rest", 1, () -> ten.game(8, 9, 7, 0));
+        due("the first", 10, () -> ten.game(8, 9, 7, 1));
+        ten.rent(8, 4);
+        due("for 4 it may stay, if the other one goes", 2, () -> ten.game(8, 9, 7, 0));
+        due("the first", 1, () -> ten.game(8, 9, 7, 1));
+        ten.rent(9, 20);
+        due("the second one stays for 20", 1, () -> ten.game(8, 9, 7, 0));
+        due("the first", 10, () -> ten.game(8, 9, 7, 1));
+        // two of ten on the quay, all walls of RENT 5: one of them goes
+        BalconyPort quay = Check.of("balcony 1 1 0 0;".repeat(8) + "balcony 1 9 1 0; balcony 1 9 0 0;" + "wall 8 5;".repeat(10) + "ship 99 1 1; goes 1;");
+        quay.days(1);
+        quay.widen(9, 9);
+        due("nothing on the quay", 3, () -> quay.game(8, 9, 9, 0));
+        due("the first", 1, () -> quay.game(8, 9, 9, 1));
         // the wall over which they play may be one's own: it has its RENT in either way
         BalconyPort own = Check.of("balcony 1 1 1 0; balcony 1 1 0 0; wall 1 3; wall 1 3; ship 99 1 1; goes 1;");
         own.days(1);
@@ -582,6 +619,16 @@ public final class CustomsLimitsTest {
         due("the tape stays", 20, () -> x.count(15));
         due("the fault's place stays", 0, x::fault);
         due("what is seen", 1, () -> x.count(14));
+        x.see(1, 2);
+        x.see(1, 99);
+        due("more is seen", 3, () -> x.count(14));
+        due("not so", 0, () -> x.wrong(2));
+        x.restore();
+        due("what was seen", 1, () -> x.count(14));
+        due("so", 1, () -> x.wrong(2));
+        x.forget();
+        x.restore();
+        due("not forgotten", 1, () -> x.count(14));
     }
 
     private static void imageInPlace() {

@@ -35,6 +35,7 @@ public final class DayLimitsTest {
         widenedStays();
         backFrom();
         sweepFrom();
+        leavesItsWall();
         lostForEver();
         CHECK.end("DayLimitsTest");
     }
@@ -434,6 +435,20 @@ public final class DayLimitsTest {
         due("the last one that wasn't refused is undone", 2, x::undo);
         due("day", 2, () -> x.count(5));
         due("status stays", 7, () -> x.count(17));
+        // with 40 kept, a refused one puts none of them out
+        BalconyPort full = Check.of("balcony 1 1 0 0; wall 1 0;");
+        for (int i = 1; i <= 40; i++) {
+            full.rent(0, i % 21);
+        }
+        full.rent(0, 21);
+        full.days(0);
+        full.back(0);
+        due("kept", 40, () -> full.count(13));
+        for (int left = 39; left >= 0; left--) {
+            int wanted = left;
+            due("left", wanted, full::undo);
+        }
+        due("as at first", 0, () -> full.wall(0, 1));
     }
 
     private static void undoLastFirst() {
@@ -601,6 +616,24 @@ public final class DayLimitsTest {
             due("kept", 4, () -> x.count(13));
             due("again", false, () -> x.sweep(place));
             due("refused", 2, () -> x.count(17));
+        }
+    }
+
+    private static void leavesItsWall() {
+        CHECK.sentence("one on a WALL goes BACK; one that isn't LOST is SWEPT OFF: the WALL is without one then");
+        for (int b = 0; b < 10; b++) {
+            int balcony = b;
+            for (Refusal.On act : new Refusal.On[] {x -> x.back(balcony), x -> x.sweep(balcony)}) {
+                BalconyPort x = Check.of("balcony 1 1 0 0;".repeat(10) + "wall 1 1;".repeat(10) + "ship 99 1 1; goes day = 0;");
+                x.days(1);
+                due("it hangs", balcony, () -> x.wall(balcony, 2));
+                due("it goes", true, () -> act.answer(x));
+                due("its wall has none", -1, () -> x.wall(balcony, 2));
+                due("only that one is free", 1 << balcony, () -> x.vacant(0));
+                x.undo();
+                due("none is free", 0, () -> x.vacant(0));
+                due("it hangs again", balcony, () -> x.wall(balcony, 2));
+            }
         }
     }
 

@@ -39,6 +39,10 @@ public final class TextLimitsTest {
         CHECK.end("TextLimitsTest");
     }
 
+    private static void due(String what, Object want, Check.Call call) {
+        CHECK.due(what, want, call);
+    }
+
     private static void fault(int kind, int place, String text) {
         Refusal.text(CHECK, kind, place, text);
     }
@@ -594,6 +598,20 @@ public final class TextLimitsTest {
         CHECK.due("day 981", 0, () -> x.balcony(9, 7));
         x.days(18);
         CHECK.due("day 999", 1, () -> x.balcony(9, 7));
+        for (int b = 0; b < 10; b++) {
+            int balcony = b;
+            BalconyPort pots = fine(ten + "goes pots = 9;");
+            pots.pots(b, 9);
+            for (int c = 0; c < 10; c++) {
+                int other = c;
+                due("pots of " + c, c == b ? 1 : 0, () -> pots.balcony(other, 7));
+            }
+            // it is none of the others itself, wherever it is
+            BalconyPort gone = fine(ten + "goes gone = 0 and beside = 0;");
+            gone.sweep(b);
+            due("none of the others is gone", 1, () -> gone.balcony(balcony, 7));
+            due("one of the others is", 0, () -> gone.balcony(9 - balcony, 7));
+        }
         // whatever the place: gone is all but AT HOME; one of another STREET is none of these
         BalconyPort y = fine("balcony 20 2 1 0; balcony 4 3 2 0; balcony 1 9 3 0; balcony 1 1 4 0; balcony 3 1 5 0; balcony 9 1 0 1;"
             + "wall 1 7; wall 4 2; ship 99 1 3; goes iron = day+1 or gone = 4 and iron = 20 or iron = 9 and gone;");
