@@ -546,6 +546,7 @@ public final class AheadLimitsTest {
         due("two", 3, () -> over("balcony 1 9 0 0; balcony 1 9 0 0; wall 8 0; wall 8 0; wall 8 0;").widening());
         due("one of two wide ones has a wall", 2, () -> over("balcony 1 9 0 0; balcony 1 9 0 0; wall 9 0; wall 8 0; wall 8 0;").widening());
         due("all ten", 1023, () -> over("balcony 1 9 0 0;".repeat(10) + "wall 8 0;".repeat(10)).widening());
+        due("one of ten", 1, () -> over("balcony 1 9 0 0;" + "wall 8 9;".repeat(10)).widening());
         BalconyPort x = over("balcony 1 5 0 0; wall 5 0; wall 1 0;");
         x.widen(0, 4);
         due("it hangs, but could not at once", 1, x::widening);

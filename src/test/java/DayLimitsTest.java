@@ -20,6 +20,7 @@ public final class DayLimitsTest {
         wideEnough();
         leastWidth();
         waits();
+        fullHouse();
         earns();
         mostMoney();
         dayIsOneMore();
@@ -262,6 +263,34 @@ public final class DayLimitsTest {
         x.days(1);
         due("then the last one", 0, () -> x.balcony(2, 5));
         due("and back home", 2, () -> x.count(7));
+    }
+
+    private static void fullHouse() {
+        CHECK.sentence("BALCONIES 0, 1 .. (at most 10), WALLS over there 0, 1 .. (at most 10)");
+        // all but the last one go on DAY 0, that a day later, and it is too wide; the first one fits one wall best
+        for (int fits = 0; fits < 10; fits++) {
+            StringBuilder text = new StringBuilder("balcony 1 2 5 0;" + "balcony 1 3 0 1;".repeat(8) + "balcony 2 9 4 2; ship 99 1 2; goes iron = day + 1;");
+            for (int w = 0; w < 10; w++) {
+                text.append(w == fits ? "wall 2 1;" : "wall 3 1;");
+            }
+            BalconyPort x = Check.of(text.toString());
+            x.days(1);
+            due("nine at sea", 511, () -> x.count(8));
+            x.days(1);
+            due("nine on walls", 511, () -> x.count(10));
+            due("the last one at sea", 512, () -> x.count(8));
+            x.days(1);
+            due("the last one on the quay", 512, () -> x.count(9));
+            x.days(1);
+            due("it waits", 512, () -> x.count(9));
+            int best = fits;
+            due("the first one's wall", best, () -> x.balcony(0, 5));
+            due("the first one's pots", 5, () -> x.balcony(0, 2));
+            due("the first one's money", 18, () -> x.street(0, 0));
+            due("the others' money", 24, () -> x.street(1, 0));
+            due("the last one's money", 0, () -> x.street(2, 0));
+            due("nine on walls", 511, () -> x.count(10));
+        }
     }
 
     private static void earns() {

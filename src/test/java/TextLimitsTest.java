@@ -31,6 +31,7 @@ public final class TextLimitsTest {
         nots();
         noValues();
         seconds();
+        rulesBehindEachOther();
         wraps();
         divisions();
         tests();
@@ -490,6 +491,22 @@ public final class TextLimitsTest {
         CHECK.due("again", 0, () -> Check.port(x, lines[0] + lines[1] + lines[2]));
         CHECK.due("with a fault", 1, () -> Check.port(x, lines[0] + lines[1] + lines[2] + "x"));
         CHECK.due("and again", 0, () -> Check.port(x, lines[0] + lines[1] + lines[2]));
+    }
+
+    private static void rulesBehindEachOther() {
+        CHECK.sentence("3: are a PORT, all anew: a rule, too");
+        BalconyPort x = fine(BALCONY + "goes 1-5+0*7-9;");
+        due("below 0", 0, () -> x.balcony(0, 7));
+        Check.port(x, BALCONY + "goes 1;");
+        due("a shorter one", 1, () -> x.balcony(0, 7));
+        Check.port(x, BALCONY + "goes not 1;");
+        due("a longer one", 0, () -> x.balcony(0, 7));
+        Check.port(x, BALCONY + "goes 1;");
+        due("a shorter one", 1, () -> x.balcony(0, 7));
+        Check.port(x, BALCONY + "times 4;");
+        due("none", 1, () -> x.balcony(0, 7));
+        Check.port(x, BALCONY);
+        due("none", 0, () -> x.balcony(0, 7));
     }
 
     /** Whether a rule behind a text takes balcony 0 now. */
