@@ -673,10 +673,19 @@ public final class BalconyPort {
             if (isWord("times")) {
                 return readTimes();
             }
+            // a method of its own for a rule would let calls go nine deep
             if (isWord("goes")) {
-                return readGoes();
+                return beginOnce(draft.ruleLength > 0) && readOr(0) && readEnd(';');
             }
             return fail(MISPLACED);
+        }
+
+        private boolean beginOnce(boolean stoodBefore) {
+            if (stoodBefore) {
+                return fail(TWICE);
+            }
+            nextToken();
+            return true;
         }
 
         private boolean readBalcony() {
@@ -703,21 +712,14 @@ public final class BalconyPort {
         }
 
         private boolean readShip() {
-            if (hasShip) {
-                return fail(TWICE);
-            }
+            boolean isSecond = hasShip;
             hasShip = true;
-            nextToken();
-            return readNumber(draft.ship, Plan.HOLD, 1, 99) && readNumber(draft.ship, Plan.EVERY, 1, 9)
-                && readNumber(draft.ship, Plan.VOYAGE, 1, 9) && readEnd(';');
+            return beginOnce(isSecond) && readNumber(draft.ship, Plan.HOLD, 1, 99)
+                && readNumber(draft.ship, Plan.EVERY, 1, 9) && readNumber(draft.ship, Plan.VOYAGE, 1, 9) && readEnd(';');
         }
 
         private boolean readTimes() {
-            if (draft.timesMany > 0) {
-                return fail(TWICE);
-            }
-            nextToken();
-            boolean fine = readNumber(draft.times, 0, 0, 9);
+            boolean fine = beginOnce(draft.timesMany > 0) && readNumber(draft.times, 0, 0, 9);
             int many = 1;
             while (fine && kind == NUMBER && many < MOST) {
                 fine = readNumber(draft.times, many, 0, 9);
@@ -728,14 +730,6 @@ public final class BalconyPort {
                 return fail(TOO_MUCH);
             }
             return fine && readEnd(';');
-        }
-
-        private boolean readGoes() {
-            if (draft.ruleLength > 0) {
-                return fail(TWICE);
-            }
-            nextToken();
-            return readOr(0) && readEnd(';');
         }
 
         private boolean readNumber(int[] into, int index, int least, int most) {
